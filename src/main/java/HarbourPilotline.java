@@ -272,7 +272,7 @@ public final class HarbourPilotline {
 
     // ---- slots
 
-    /** Lets all that wait or are SET look for slots, and tells how many got another one, or none. */
+    /** Lets all that are SET or JOINED look for slots, and tells how many got another one, or none. */
     private int lookAnew() {
         int moved = 0;
         for (int i = 0; i < conferences.size(); i++) {
@@ -288,8 +288,8 @@ public final class HarbourPilotline {
         return moved;
     }
 
+    /** A former slot is let go by that: no search counts the own slot of the one that looks. */
     private void lookForSlot(Conference looking) {
-        looking.slot = NONE;
         looking.slot = earliestSlot(looking);
         if (looking.slot == NONE) {
             looking.state = JOINED;
@@ -440,7 +440,7 @@ public final class HarbourPilotline {
             return Math.min(behind, 2 * HALF - behind) * rise / HALF;
         }
 
-        /** As the other past...: looks from the move's end, for the farthest step past low water. */
+        /** As the other past...; looks from the move's end, for the farthest step past low water. */
         int pastShallows(Ship mover, int minute) {
             int needed = mover.draught + KEEL_ROOM;
             for (int at = minute + mover.minutes - 1; at >= minute; at--) {

@@ -53,6 +53,7 @@ public final class AskedTest {
         due.same("13: no tide needed", 20000, () -> x.window(2, 20000));
         due.same("13: over as the water goes", 702, () -> x.window(3, 702));
         due.same("13: from the next minute on", 729, () -> x.window(3, 703));
+        due.same("13: a minute ahead of it", 729, () -> x.window(3, 728));
         due.same("13: behind the last minute", 20511, () -> x.window(0, 20000));
         x.pass(2000);
         due.same("13: ahead of now", 351, () -> x.window(0, 0));

@@ -163,6 +163,8 @@ public final class CallsTest {
         due.same("7: none for 20 minutes", -1, () -> h.slot(1));
         h.full(0, 352, 1);
         due.same("7: the next high water", 1071, () -> h.slot(2));
+        h.full(0, 1790, 1);
+        due.same("7: a minute behind its wish", 1791, () -> h.slot(3));
     }
 
     private static void slotByRests() {
