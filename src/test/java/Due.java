@@ -13,6 +13,12 @@ final class Due {
     static final String STATE = "IllegalStateException";
 
     private int wrong;
+    private String about = "";
+
+    /** Ahead of all that is told from now on. */
+    void about(String text) {
+        about = text;
+    }
 
     void same(String what, long want, Call call) {
         String got = outcome(call);
@@ -37,7 +43,7 @@ final class Due {
 
     void tell(String text) {
         wrong++;
-        System.out.println(text);
+        System.out.println(about + text);
     }
 
     void close() {
